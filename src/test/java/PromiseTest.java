@@ -28,6 +28,7 @@ public final class PromiseTest {
         roundingUp();
         roundingAtTheEnds();
         signs();
+        lastBit();
         CHECKS.end();
     }
 
@@ -517,5 +518,28 @@ public final class PromiseTest {
         sign(d, 4, 0, 1);
         d.constant(-LEAST);
         sign(d, 4, 0, -1);
+    }
+
+    /** b * b * b - 3 * a * b * b + 3 * a * a * b - a * a * a, where b - a is the last bit there is. */
+    private static void lastBit() {
+        double a = LEAST;
+        double b = Math.nextUp(LEAST);
+        for (int way = 1; way >= -1; way -= 2) {
+            CertificateDesk d = new CertificateDesk();
+            for (double v : new double[] { b, a, b, a }) {
+                int j = d.column(0.0, 0, 0.0, 0.0);
+                d.x(j, v, -600);
+            }
+            d.pair(0, 0, way * b);
+            d.pair(2, 2, way * -3.0 * a);
+            d.pair(3, 1, way * b);
+            d.pair(3, 3, way * b);
+            sign(d, 4, 0, way);
+            d.pair(1, 1, way * -a);
+            sign(d, 4, 0, way);
+            sign(d, 3, 0, way);
+            certify(d, 4, 0, way > 0 ? Double.MIN_VALUE : 0.0);
+            certify(d, 3, 0, way > 0 ? Double.MIN_VALUE : 0.0);
+        }
     }
 }
