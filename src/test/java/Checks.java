@@ -11,13 +11,17 @@ final class Checks {
 
     private int made = 0;
     private int wrong = 0;
+    private String sentence = "";
+
+    /** The document's words that the checks after this one are about. */
+    void under(String words) { sentence = "\"" + words + "\": "; }
 
     void due(String call, String got, String want) {
         made++;
         if (!got.equals(want)) {
             wrong++;
             if (wrong <= 50) {
-                System.out.println(call + " answered " + got + ", due is " + want);
+                System.out.println(sentence + call + " answered " + got + ", due is " + want);
             }
         }
     }
@@ -28,6 +32,34 @@ final class Checks {
     void doubles(String call, DoubleCall run, String want) { due(call, ofDouble(run), want); }
     void done(String call, VoidCall run) { due(call, ofVoid(run), "done"); }
     void voids(String call, VoidCall run, String want) { due(call, ofVoid(run), want); }
+
+    void certify(String at, CertificateDesk d, int what, int k, double want) {
+        doubles(at + " certify(" + what + ", " + k + ")", () -> d.certify(what, k), want);
+    }
+
+    void certify(String at, CertificateDesk d, int what, int k, String want) {
+        doubles(at + " certify(" + what + ", " + k + ")", () -> d.certify(what, k), want);
+    }
+
+    void sign(String at, CertificateDesk d, int what, int k, int want) {
+        ints(at + " sign(" + what + ", " + k + ")", () -> d.sign(what, k), want);
+    }
+
+    void sign(String at, CertificateDesk d, int what, int k, String want) {
+        ints(at + " sign(" + what + ", " + k + ")", () -> d.sign(what, k), want);
+    }
+
+    /** A figure that is a double itself: its answer and its sign. */
+    void figure(String at, CertificateDesk d, int what, int k, double want) {
+        certify(at, d, what, k, want);
+        sign(at, d, what, k, want > 0.0 ? 1 : want < 0.0 ? -1 : 0);
+    }
+
+    /** A figure that is refused: certify and sign alike. */
+    void refused(String at, CertificateDesk d, int what, int k, String want) {
+        certify(at, d, what, k, want);
+        sign(at, d, what, k, want);
+    }
 
     static String ofInt(IntCall run) {
         try { return "" + run.run(); } catch (RuntimeException e) { return thrown(e); }

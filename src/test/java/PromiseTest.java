@@ -1,13 +1,9 @@
 /** For each promise: ordinary inputs, the edges that the document names, and wrong inputs. */
 public final class PromiseTest {
-    private static final double MOST = 0x1p60;
-    private static final double LEAST = 0x1p-60;
-    private static final double[] REFUSED = {
-        Double.NaN, Double.POSITIVE_INFINITY, Double.NEGATIVE_INFINITY, Double.MAX_VALUE,
-        Double.MIN_VALUE, -Double.MIN_VALUE, Double.MIN_NORMAL, Math.nextUp(MOST), Math.nextDown(-MOST),
-        Math.nextDown(LEAST), Math.nextUp(-LEAST), 0x1p61, 0x1p-61,
-    };
-    private static final double[] TAKEN = { 0.0, -0.0, MOST, -MOST, LEAST, -LEAST, 0.1, -1e17, Math.nextUp(LEAST) };
+    private static final double MOST = Desks.MOST;
+    private static final double LEAST = Desks.LEAST;
+    private static final double[] REFUSED = Desks.REFUSED;
+    private static final double[] TAKEN = Desks.TAKEN;
 
     private static final Checks CHECKS = new Checks();
 
@@ -15,19 +11,30 @@ public final class PromiseTest {
         newObject();
         constant();
         row();
+        rowLimitsNotLookedAt();
         column();
+        columnLimitsNotLookedAt();
         entry();
+        hundredthEntry();
         pair();
+        sixtiethPair();
         values();
+        valuesOfEitherSign();
+        valuesGivenAgain();
         rowFigures();
         columnFigures();
         dualFigures();
         gap();
         gapOfAbsentLimits();
         refusedFigures();
+        figuresOfNone();
+        numberNotLookedAt();
         roundingUp();
         roundingAtTheEnds();
         signs();
+        signsOfAllFigures();
+        signWhereRoundedToZero();
+        signWhereNotFinite();
         lastBit();
         CHECKS.end();
     }
@@ -45,6 +52,7 @@ public final class PromiseTest {
     }
 
     private static void newObject() {
+        CHECKS.under("Promise 1: a new object: no rows, no columns, K 0.0");
         CertificateDesk d = new CertificateDesk();
         for (int what = 0; what <= 4; what++) {
             certify(d, what, -1, 0.0);
@@ -61,6 +69,7 @@ public final class PromiseTest {
     }
 
     private static void constant() {
+        CHECKS.under("Promise 2: K is v");
         CertificateDesk d = new CertificateDesk();
         for (double v : TAKEN) {
             CHECKS.done("constant(" + v + ")", () -> d.constant(v));
@@ -75,6 +84,7 @@ public final class PromiseTest {
     }
 
     private static void row() {
+        CHECKS.under("Promise 3: a further row");
         CertificateDesk d = new CertificateDesk();
         for (int has : new int[] { -1, 4, 5, Integer.MIN_VALUE, Integer.MAX_VALUE }) {
             CHECKS.ints("row of has " + has, () -> d.row(has, 0.0, 0.0), Checks.ARGUMENT);
@@ -104,7 +114,26 @@ public final class PromiseTest {
         certify(d, 5, 12, Checks.INDEX);
     }
 
+    private static void rowLimitsNotLookedAt() {
+        CHECKS.under("Promise 3: low, high .. if has has the bit 1, 2 (not looked at else)");
+        for (double v : REFUSED) {
+            CertificateDesk d = new CertificateDesk();
+            CHECKS.ints("none, " + v, () -> d.row(0, v, v), 0);
+            CHECKS.ints("low alone, " + v, () -> d.row(1, 4.0, v), 1);
+            CHECKS.ints("high alone, " + v, () -> d.row(2, v, -5.0), 2);
+            certify(d, 5, 0, 0.0);
+            certify(d, 5, 1, 4.0);
+            certify(d, 5, 2, 5.0);
+            d.y(0, 1.0, 0);
+            d.y(1, -1.0, 0);
+            d.y(2, 1.0, 0);
+            certify(d, 3, 0, 0.0);
+            certify(d, 2, 0, 1.0);
+        }
+    }
+
     private static void column() {
+        CHECKS.under("Promise 4: a further column");
         CertificateDesk d = new CertificateDesk();
         for (int has : new int[] { -1, 4, 7, Integer.MIN_VALUE, Integer.MAX_VALUE }) {
             CHECKS.ints("column of has " + has, () -> d.column(0.0, has, 0.0, 0.0), Checks.ARGUMENT);
@@ -137,6 +166,21 @@ public final class PromiseTest {
         certify(d, 7, 16, Checks.INDEX);
     }
 
+    private static void columnLimitsNotLookedAt() {
+        CHECKS.under("Promise 4: likewise");
+        for (double v : REFUSED) {
+            CertificateDesk d = new CertificateDesk();
+            CHECKS.ints("none, " + v, () -> d.column(1.0, 0, v, v), 0);
+            CHECKS.ints("low alone, " + v, () -> d.column(-1.0, 1, 4.0, v), 1);
+            CHECKS.ints("high alone, " + v, () -> d.column(1.0, 2, v, -5.0), 2);
+            certify(d, 6, 0, 0.0);
+            certify(d, 6, 1, 4.0);
+            certify(d, 6, 2, 5.0);
+            certify(d, 3, 0, 0.0);
+            certify(d, 2, 0, 1.0);
+        }
+    }
+
     private static CertificateDesk fullGrid() {
         CertificateDesk d = new CertificateDesk();
         for (int i = 0; i < 12; i++) {
@@ -149,6 +193,7 @@ public final class PromiseTest {
     }
 
     private static void entry() {
+        CHECKS.under("Promise 5: a[i][j] is v");
         CertificateDesk d = new CertificateDesk();
         CHECKS.ints("entry of nothing", () -> d.entry(0, 0, 1.0), Checks.ARGUMENT);
         d.row(2, 0.0, 0.0);
@@ -183,7 +228,25 @@ public final class PromiseTest {
         certify(full, 5, 11, 0.0);
     }
 
+    private static void hundredthEntry() {
+        CHECKS.under("Promise 5: (0.0, too: then it is there): how many entries .. there are 100");
+        CertificateDesk d = fullGrid();
+        for (int n = 0; n < 99; n++) {
+            d.entry(n % 12, n / 12, 0.0);
+        }
+        CHECKS.ints("there already, of 99", () -> d.entry(0, 0, 1.0), Checks.STATE);
+        CHECKS.ints("the hundredth", () -> d.entry(11, 15, -0.0), 100);
+        CHECKS.ints("there already, of 100", () -> d.entry(11, 15, 1.0), Checks.STATE);
+        CHECKS.ints("one more", () -> d.entry(11, 14, 1.0), Checks.INDEX);
+        CHECKS.ints("one more of 0.0", () -> d.entry(11, 14, 0.0), Checks.INDEX);
+        for (int j = 0; j < 16; j++) {
+            d.x(j, 1.0, 0);
+        }
+        certify(d, 0, 0, 0.0);
+    }
+
     private static void pair() {
+        CHECKS.under("Promise 6: q[i][j] and q[j][i] are v");
         CertificateDesk d = new CertificateDesk();
         CHECKS.ints("pair of nothing", () -> d.pair(0, 0, 1.0), Checks.ARGUMENT);
         d.column(0.0, 0, 0.0, 0.0);
@@ -225,7 +288,30 @@ public final class PromiseTest {
         certify(full, 7, 15, 0.0);
     }
 
+    private static void sixtiethPair() {
+        CHECKS.under("Promise 6: (i may be j): how many pairs .. there are 60");
+        CertificateDesk d = fullGrid();
+        int made = 0;
+        for (int i = 0; made < 59; i++) {
+            for (int j = 0; j <= i && made < 59; j++) {
+                d.pair(j, i, 0.0);
+                made++;
+            }
+        }
+        CHECKS.ints("there already, of 59", () -> d.pair(1, 0, 1.0), Checks.STATE);
+        CHECKS.ints("the sixtieth", () -> d.pair(15, 15, -0.0), 60);
+        CHECKS.ints("there already, of 60", () -> d.pair(15, 15, 1.0), Checks.STATE);
+        CHECKS.ints("there already, other way round", () -> d.pair(3, 1, 1.0), Checks.STATE);
+        CHECKS.ints("one more", () -> d.pair(15, 14, 1.0), Checks.INDEX);
+        CHECKS.ints("one more, other way round", () -> d.pair(14, 15, 0.0), Checks.INDEX);
+        for (int j = 0; j < 16; j++) {
+            d.x(j, 1.0, 0);
+        }
+        certify(d, 4, 0, 0.0);
+    }
+
     private static void values() {
+        CHECKS.under("Promises 7 and 8: x of column j, y of row i is v times 2 ** by");
         CertificateDesk d = new CertificateDesk();
         CHECKS.voids("x of none", () -> d.x(0, 1.0, 0), Checks.INDEX);
         CHECKS.voids("y of none", () -> d.y(0, 1.0, 0), Checks.INDEX);
@@ -253,18 +339,44 @@ public final class PromiseTest {
         certify(d, 6, 0, 6.0);
         certify(d, 6, 1, 0.0);
         certify(d, 2, 0, 1.5);
-        for (int by : new int[] { 600, -600, 0, 1, -1 }) {
+    }
+
+    /** r is x[0] of the one column and y[0] negated of the other. */
+    private static void valuesOfEitherSign() {
+        CHECKS.under("Promises 7 and 8: v times 2 ** by, by -600..600");
+        for (int by : new int[] { -600, -599, -1, 0, 1, 599, 600 }) {
+            CertificateDesk d = new CertificateDesk();
+            d.row(0, 0.0, 0.0);
+            d.column(0.0, 0, 0.0, 0.0);
+            d.column(0.0, 0, 0.0, 0.0);
+            d.pair(0, 0, 1.0);
+            d.entry(0, 1, 1.0);
             for (double v : TAKEN) {
                 CHECKS.done("x " + v + " by " + by, () -> d.x(0, v, by));
                 CHECKS.done("y " + v + " by " + by, () -> d.y(0, v, by));
-                double size = Math.scalb(Math.abs(v), by);
-                certify(d, 6, 0, v > 0.0 ? size : 0.0);
-                certify(d, 2, 0, size);
+                double scaled = Math.scalb(v, by);
+                certify(d, 7, 0, scaled + 0.0);
+                certify(d, 7, 1, 0.0 - scaled);
+                certify(d, 2, 0, Math.abs(scaled));
             }
         }
     }
 
+    private static void valuesGivenAgain() {
+        CHECKS.under("Promises 7 and 8: x, y is v: what was given before is gone");
+        CertificateDesk d = Desks.some();
+        String before = Desks.told(Desks.some());
+        d.x(0, MOST, 600);
+        d.y(1, -LEAST, -600);
+        d.x(2, 0.0, 0);
+        d.x(0, 0.75, 2);
+        d.y(1, 2.25, 0);
+        d.x(2, 3.5, 0);
+        CHECKS.due("x and y as they were", Desks.told(d), before);
+    }
+
     private static void rowFigures() {
+        CHECKS.under("Promise 9: what 0 and 5");
         CertificateDesk d = new CertificateDesk();
         d.row(3, -1.0, 1.0);
         d.row(3, 10.0, 4.0);
@@ -298,6 +410,7 @@ public final class PromiseTest {
     }
 
     private static void columnFigures() {
+        CHECKS.under("Promise 9: what 1 and 6");
         CertificateDesk d = new CertificateDesk();
         d.column(0.0, 1, 2.0, 0.0);
         d.column(0.0, 2, 0.0, -2.0);
@@ -321,6 +434,7 @@ public final class PromiseTest {
     }
 
     private static void dualFigures() {
+        CHECKS.under("Promise 9: what 2 and 7");
         CertificateDesk d = new CertificateDesk();
         d.column(5.0, 1, 0.0, 0.0);
         certify(d, 2, 0, 0.0);
@@ -351,6 +465,7 @@ public final class PromiseTest {
     }
 
     private static void gap() {
+        CHECKS.under("Promise 9: what 3");
         CertificateDesk d = new CertificateDesk();
         d.constant(1000.0);
         d.row(3, 2.0, 3.0);
@@ -376,6 +491,7 @@ public final class PromiseTest {
     }
 
     private static void gapOfAbsentLimits() {
+        CHECKS.under("Promise 9: what 3, where these are there");
         CertificateDesk d = new CertificateDesk();
         d.row(2, 0.0, 3.0);
         d.row(1, 3.0, 0.0);
@@ -395,6 +511,7 @@ public final class PromiseTest {
     }
 
     private static void refusedFigures() {
+        CHECKS.under("Promises 9 and 10: IllegalArgumentException, IndexOutOfBoundsException");
         CertificateDesk d = new CertificateDesk();
         d.row(0, 0.0, 0.0);
         d.column(0.0, 0, 0.0, 0.0);
@@ -421,7 +538,48 @@ public final class PromiseTest {
         certify(d, 7, 1, 0.0);
     }
 
+    private static void figuresOfNone() {
+        CHECKS.under("Promise 9: (0 to 2: 0.0 of none)");
+        CertificateDesk rows = Desks.of(3, 0);
+        CertificateDesk columns = Desks.of(0, 3);
+        for (int what = 0; what <= 4; what++) {
+            CHECKS.figure("none at all", new CertificateDesk(), what, 0, 0.0);
+            CHECKS.figure("no column", rows, what, 0, 0.0);
+            CHECKS.figure("no row", columns, what, 0, 0.0);
+        }
+        for (int what = 5; what <= 7; what++) {
+            CHECKS.refused("none at all", new CertificateDesk(), what, 0, Checks.INDEX);
+        }
+        CHECKS.figure("row of no column", rows, 5, 2, 0.0);
+        CHECKS.refused("row after the last", rows, 5, 3, Checks.INDEX);
+        CHECKS.refused("column of none", rows, 6, 0, Checks.INDEX);
+        CHECKS.refused("column of none", rows, 7, 0, Checks.INDEX);
+        CHECKS.refused("row of none", columns, 5, 0, Checks.INDEX);
+        CHECKS.figure("column of no row", columns, 6, 2, 0.0);
+        CHECKS.figure("column of no row", columns, 7, 2, 0.0);
+        CHECKS.refused("column after the last", columns, 6, 3, Checks.INDEX);
+        CHECKS.refused("column after the last", columns, 7, 3, Checks.INDEX);
+    }
+
+    private static void numberNotLookedAt() {
+        CHECKS.under("Promise 9: there is no k (5 to 7; else k is not looked at)");
+        double[] due = { 9.5, 1.5, 25.0, 31.0 - 60.0 - 73.5 + 21.0, 11.0 + 31.0 - 30.0 - 36.75 };
+        for (int k : new int[] { 0, 1, 2, 3, 11, 12, 15, 16, -1, Integer.MIN_VALUE, Integer.MAX_VALUE }) {
+            CertificateDesk d = Desks.some();
+            for (int what = 0; what <= 4; what++) {
+                CHECKS.figure("some", d, what, k, due[what]);
+            }
+            for (int what = 5; what <= 7; what++) {
+                boolean there = k >= 0 && k < (what == 5 ? 2 : 3);
+                if (!there) {
+                    CHECKS.refused("some", d, what, k, Checks.INDEX);
+                }
+            }
+        }
+    }
+
     private static void roundingUp() {
+        CHECKS.under("Promise 9: rounded up");
         CertificateDesk d = new CertificateDesk();
         d.column(1.0, 0, 0.0, 0.0);
         d.constant(1.0);
@@ -460,6 +618,7 @@ public final class PromiseTest {
     }
 
     private static void roundingAtTheEnds() {
+        CHECKS.under("Promise 9: rounded up, at the ends");
         double full = 0x1p53 - 1.0;
         CertificateDesk most = square(full, 471, 1.0, 500);
         certify(most, 4, 0, Double.MAX_VALUE);
@@ -494,6 +653,7 @@ public final class PromiseTest {
     }
 
     private static void signs() {
+        CHECKS.under("Promise 10: by the exact sign");
         CertificateDesk d = new CertificateDesk();
         d.row(3, 1.0, 1.0);
         d.column(1.0, 3, 1.0, 1.0);
@@ -520,8 +680,71 @@ public final class PromiseTest {
         sign(d, 4, 0, -1);
     }
 
+    private static void signsOfAllFigures() {
+        CHECKS.under("Promise 10: -1, 0, 1");
+        for (int side = -1; side <= 1; side++) {
+            CertificateDesk d = new CertificateDesk();
+            d.row(2, 0.0, 0.0);
+            d.column(side, 2, 0.0, 0.0);
+            d.entry(0, 0, 1.0);
+            d.x(0, side, 0);
+            sign(d, 0, 0, side > 0 ? 1 : 0);
+            sign(d, 1, 0, side > 0 ? 1 : 0);
+            sign(d, 2, 0, side > 0 ? 1 : 0);
+            sign(d, 3, 0, side == 0 ? 0 : 1);
+            sign(d, 4, 0, side == 0 ? 0 : 1);
+            sign(d, 5, 0, side > 0 ? 1 : 0);
+            sign(d, 6, 0, side > 0 ? 1 : 0);
+            sign(d, 7, 0, side);
+            d.x(0, -1.0, 0);
+            sign(d, 3, 0, -side);
+            sign(d, 4, 0, -side);
+        }
+    }
+
+    private static void signWhereRoundedToZero() {
+        CHECKS.under("Promise 10: by the exact sign of that figure, before it is rounded");
+        CertificateDesk d = square(LEAST, -600, -LEAST, -600);
+        for (int what = 3; what <= 4; what++) {
+            certify(d, what, 0, 0.0);
+            sign(d, what, 0, -1);
+        }
+        d.x(1, LEAST, -600);
+        for (int what = 3; what <= 4; what++) {
+            certify(d, what, 0, Double.MIN_VALUE);
+            sign(d, what, 0, 1);
+        }
+        d.x(1, 0.0, -600);
+        for (int what = 3; what <= 4; what++) {
+            certify(d, what, 0, 0.0);
+            sign(d, what, 0, 0);
+        }
+    }
+
+    private static void signWhereNotFinite() {
+        CHECKS.under("Promise 10: (also where certify throws ArithmeticException)");
+        CertificateDesk d = square(1.0, 512, 1.0, 512);
+        for (int what = 3; what <= 4; what++) {
+            certify(d, what, 0, Checks.ARITHMETIC);
+            sign(d, what, 0, 1);
+            certify(d, what, 0, Checks.ARITHMETIC);
+        }
+        certify(d, 7, 0, 0x1p512);
+        d.x(1, -1.0, 512);
+        for (int what = 3; what <= 4; what++) {
+            certify(d, what, 0, -Double.MAX_VALUE);
+            sign(d, what, 0, -1);
+        }
+        d.x(1, 0.0, 512);
+        for (int what = 3; what <= 4; what++) {
+            certify(d, what, 0, 0.0);
+            sign(d, what, 0, 0);
+        }
+    }
+
     /** b * b * b - 3 * a * b * b + 3 * a * a * b - a * a * a, where b - a is the last bit there is. */
     private static void lastBit() {
+        CHECKS.under("Promise 10: before it is rounded");
         double a = LEAST;
         double b = Math.nextUp(LEAST);
         for (int way = 1; way >= -1; way -= 2) {
