@@ -359,6 +359,15 @@ public final class PromiseTest {
                 certify(d, 7, 1, 0.0 - scaled);
                 certify(d, 2, 0, Math.abs(scaled));
             }
+            d.x(0, 3.0, 0);
+            d.y(0, 5.0, 0);
+            // v itself is looked at, not v times 2 ** by.
+            for (double v : REFUSED) {
+                CHECKS.voids("x " + v + " by " + by, () -> d.x(0, v, by), Checks.ARGUMENT);
+                CHECKS.voids("y " + v + " by " + by, () -> d.y(0, v, by), Checks.ARGUMENT);
+            }
+            certify(d, 7, 0, 3.0);
+            certify(d, 7, 1, -5.0);
         }
     }
 
